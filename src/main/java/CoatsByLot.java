@@ -687,6 +687,10 @@ public final class CoatsByLot {
         return a == 0 ? value : value / a;
     }
 
+    private static void copyRow(int[] from, int[] to) {
+        System.arraycopy(from, 0, to, 0, Math.min(from.length, to.length));
+    }
+
     /** STATIONS, WALKS, LINES and TRAINS. */
     static final class Roads {
         int stations = 0;
@@ -821,10 +825,6 @@ public final class CoatsByLot {
             copyRow(other.starts, starts);
             copyRow(other.backs, backs);
         }
-    }
-
-    private static void copyRow(int[] from, int[] to) {
-        System.arraycopy(from, 0, to, 0, Math.min(from.length, to.length));
     }
 
     /** GROUPS, FARE and FINE. */

@@ -147,6 +147,11 @@ public final class DaysTest {
         Due.due("find -1", x.find(-1, 0), Due.BEYOND);
         Due.due("find what 3", x.find(99, 3), Due.BEYOND);
         Due.due("find what -1", x.find(0, -1), Due.BEYOND);
+        CoatsByLot one = withOneShift();
+        one.lots(0, 1);
+        one.group(0, 1, 5, 1);
+        one.days(1);
+        Due.due("RIGHT by one LOT", one.find(0, 2), 5);
         CoatsByLot y = withOneShift();
         y.days(1);
         Due.due("a FIND with MANY 0 is kept", y.find(0, 1), 0);
@@ -162,8 +167,13 @@ public final class DaysTest {
     private static void promise29() {
         CoatsByLot x = withOneShift();
         Due.due("no FINDS", x.average(), Due.NONE);
+        x.days(1);
+        Due.due("average of one with MANY 0", x.average(), 0);
+        x = withOneShift();
         x.group(0, 1, 5, 1);
-        x.days(2);
+        x.days(1);
+        Due.due("average of one", x.average(), 5);
+        x.days(1);
         Due.due("average", x.average(), 5);
         x.shift(2);
         x.lots(0, 0);

@@ -107,7 +107,7 @@ public final class PlanTest {
     private static void promise21() {
         CoatsByLot x = Due.withTrains();
         x.shift(1);
-        x.shift(6 - 4);
+        x.shift(2);
         x.lots(1, 5);
         x.days(3);
         Due.due("TRAINS of 0", x.ofShift(0, 0), 1);

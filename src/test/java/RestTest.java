@@ -330,6 +330,18 @@ public final class RestTest {
         Due.due("which stays", x.price(0, 2), 1);
         Due.due("and is how often", x.image(), 3);
         textsTakenAway();
+        numbersAreKept();
+    }
+
+    private static void numbersAreKept() {
+        CoatsByLot x = Due.withTrains();
+        x.shift(1);
+        x.tell(0);
+        x.image();
+        x.check(0);
+        x.tell(7);
+        x.restore();
+        Due.due("the numbers that waited", x.check(0), 0);
     }
 
     private static void change(CoatsByLot x) {

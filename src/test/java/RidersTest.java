@@ -45,9 +45,12 @@ public final class RidersTest {
         for (int what = 0; what < due.length; what++) {
             Due.due("ofGroup(1, " + what + ")", x.ofGroup(1, what), due[what]);
         }
+        x.group(702, 45, 1, 99);
+        Due.due("STOP from 4", x.ofGroup(2, 2), 4);
+        Due.due("STOP to 5", x.ofGroup(2, 3), 5);
         Due.due("ofGroup what 8", x.ofGroup(1, 8), Due.BEYOND);
         Due.due("ofGroup what -1", x.ofGroup(1, -1), Due.BEYOND);
-        Due.due("ofGroup of none", x.ofGroup(2, 0), Due.BEYOND);
+        Due.due("ofGroup of none", x.ofGroup(3, 0), Due.BEYOND);
         Due.due("ofGroup of -1", x.ofGroup(-1, 0), Due.BEYOND);
     }
 
@@ -95,6 +98,8 @@ public final class RidersTest {
         Due.text(x, 0, "n=4");
         Due.due("n is how many STOPS: 4", x.ofGroup(10, 7), 1);
         Due.due("n is how many STOPS: 3", x.ofGroup(9, 7), 0);
+        x.train(0, 1099, 0);
+        Due.due("LATE at 1099", pays(x, 605, 1, 1), 1);
     }
 
     private static void promise12() {

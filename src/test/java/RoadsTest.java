@@ -152,6 +152,27 @@ public final class RoadsTest {
         Due.due("as the LINE is now: END", x.ofTrain(1, 3), 167);
         Due.due("as the LINE is now: first", x.ofTrain(1, 4), 3);
         Due.due("as the LINE is now: last", x.ofTrain(0, 5), 3);
+        fullLines();
+    }
+
+    private static void fullLines() {
+        CoatsByLot x = Due.withStations(8);
+        for (int line = 0; line < 4; line++) {
+            x.line(line, line + 1, 1);
+            for (int i = 2; i < 6; i++) {
+                x.extend(line, (line + i) % 8, i * 2 + line);
+            }
+            x.train(line, 1000, 0);
+            x.train(line, 1000, 1);
+        }
+        for (int line = 0; line < 4; line++) {
+            int end = 1000 + 1 + 4 + 6 + 8 + 10 + 4 * line;
+            Due.due("END on LINE " + line, x.ofTrain(2 * line, 3), end);
+            Due.due("END back on LINE " + line, x.ofTrain(2 * line + 1, 3), end);
+            Due.due("last STATION of LINE " + line, x.ofTrain(2 * line, 5), (line + 5) % 8);
+            Due.due("last STATION back on LINE " + line, x.ofTrain(2 * line + 1, 5), line);
+            Due.due("second STOP back on LINE " + line, x.stop(2 * line + 1, 1, 1), 1010 + line);
+        }
     }
 
     private static void promise9() {

@@ -49,6 +49,11 @@ public final class WouldBeTest {
         Due.due("nobody", x.turn(0), 0);
         Due.due("x -1", x.turn(-1), Due.BEYOND);
         Due.due("x 100000", x.turn(100000), Due.BEYOND);
+        x.image();
+        x.group(0, 1, 3, 1);
+        Due.due("one who never pays", x.turn(2), Due.NONE);
+        Due.due("as many as never pay", x.turn(3), 0);
+        x.restore();
         x.price(0, 7);
         x.group(200, 1, 10, 19);
         x.group(200, 1, 20, 12);
@@ -187,5 +192,8 @@ public final class WouldBeTest {
         x.group(2, 1, 1, 1);
         Due.due("7 of 18", x.fair(0), 1);
         Due.due("7 of 18, of 100", x.fair(1), 38);
+        CoatsByLot y = Due.withTrains();
+        y.group(0, 1, 999, 1);
+        Due.due("all don't pay", y.fair(1), 100);
     }
 }
