@@ -59,6 +59,13 @@ public final class RoomTest {
             x.best(5, -1);
             x.plan(5);
             x.turn(0);
+            x.turn(99999);
+            x.gate(0, 5);
+            x.fair(1);
+            x.unpaid();
+            x.seen(11, 50);
+            x.walked(4095);
+            x.check(7);
             x.image();
             x.days(9);
             x.telling(0, 0, 600, 1);
