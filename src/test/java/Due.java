@@ -8,6 +8,7 @@ final class Due {
 
     private static int wrong = 0;
     private static int asked = 0;
+    private static String promise = "";
 
     private Due() {
     }
@@ -16,8 +17,13 @@ final class Due {
         asked++;
         if (got != want) {
             wrong++;
-            System.out.println(what + " answered " + got + ", due is " + want);
+            System.out.println(promise + what + " answered " + got + ", due is " + want);
         }
+    }
+
+    /** What is asked from here on is for the promise of this number. */
+    static void promise(int number) {
+        promise = "promise " + number + ": ";
     }
 
     /** Ends the test: with exit code 1 if an answer was not as due. */
