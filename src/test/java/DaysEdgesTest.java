@@ -147,7 +147,9 @@ public final class DaysEdgesTest {
             x.group(100 * kind, 1, 1, 1);
             x.group(100 * kind, 1, 1, 89);
             x.group(100 * kind, 1, 1, 99);
+            x.group(100 * kind, 1, 1, 9);
             x.days(1);
+            Due.due("BELIEF 0 of 9 of " + kind + " who are FOUND", x.ofGroup(3, 5), 19);
             Due.due("BELIEF 0 of 1 of " + kind + " who are FOUND", x.ofGroup(0, 5), 11);
             Due.due("BELIEF 8 of 9 of " + kind + " who are FOUND", x.ofGroup(1, 5), 99);
             Due.due("BELIEF 9 of 9 of " + kind + " who are FOUND", x.ofGroup(2, 5), 99);
@@ -284,6 +286,7 @@ public final class DaysEdgesTest {
         CoatsByLot x = Edge.withLots(1, 1);
         x.days(1);
         Due.due("one FIND with MANY 0", x.average(), 0);
+        Due.due("one FIND with MANY 1", withFinds(1).average(), 1);
         x.group(0, 1, 1, 1);
         x.days(1);
         Due.due("0 and 1, cut", x.average(), 0);

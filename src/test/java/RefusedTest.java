@@ -34,6 +34,7 @@ public final class RefusedTest {
         some.askedOfSome();
         full.askedOfSome();
         some.seenByExam();
+        some.allIsRestored();
         Due.end();
     }
 
@@ -112,6 +113,21 @@ public final class RefusedTest {
         seen("tell()", x -> x.tell(0));
         seen("check()", x -> x.check(0));
         seen("tell() of others", x -> x.check(0) + x.tell(1) + x.tell(0) + x.tell(9));
+    }
+
+    /** SHEETS, THE TRACE and how often stay as they are, so nothing here changes those behind image(). */
+    private void allIsRestored() {
+        Due.promise(44);
+        List<String> due = Exam.behind(maker, x -> x.image());
+        List<String> got = Exam.behind(maker, x -> {
+            x.image();
+            Worlds.changeAgain(x);
+            return x.restore();
+        });
+        for (int i = 0; i < due.size(); i++) {
+            Due.due("restored: " + got.get(i) + ", due is " + due.get(i) + ": that they differ",
+                    got.get(i).equals(due.get(i)) ? 0 : 1, 0);
+        }
     }
 
     private void beyondOfRoads() {

@@ -170,13 +170,18 @@ public final class RestEdgesTest {
             x.sheet(2, 16, 1);
             Due.due("bits behind refused ones", x.move(1, 0, 2, 0, 0), 0);
         }
-        CoatsByLot x = Edge.with(2, 1, 1);
+        CoatsByLot x = Edge.with(2, 1, 2);
         x.sheet(0, 16, 40);
-        fill(x, 0, 0, 1, 7, 1);
+        fill(x, 0, 1, 1, 7, 1);
         x.sheet(0, 16, 41);
         Due.due("numbers behind a refused one", x.groups(0), 1);
         Due.due("one of like bits and size, all 0", x.sheet(0, 16, 40), 1);
         Due.due("which gives none", x.groups(0), 0);
+        for (int i = 1; i < 4; i++) {
+            x.put(0, i, 1);
+        }
+        Due.due("number 0, by which it gives one", x.groups(0), 1);
+        Due.due("which is 0: its TRAIN", x.ofGroup(1, 1), 0);
         fill(x, 0, 0, 1, 7, 1);
         x.sheet(0, 0, 40);
         Due.due("missing", x.groups(0), Due.NONE);
@@ -218,7 +223,9 @@ public final class RestEdgesTest {
             Due.due("NONE ahead of BEYOND of i " + i, new CoatsByLot().put(3, i, 5), Due.NONE);
         }
         CoatsByLot x = withSheet(16, 4);
-        fill(x, 0, 0, 1, 7, 1);
+        for (int i = 0; i < 4; i++) {
+            Due.due("put() at " + i, x.put(0, i, i == 2 ? 7 : i % 2), 1);
+        }
         x.put(0, 4, 999);
         x.put(0, -1, 999);
         Due.due("numbers behind refused ones", x.groups(0), 1);
@@ -419,6 +426,16 @@ public final class RestEdgesTest {
     }
 
     private static void promise42OfFours() {
+        CoatsByLot y = Edge.with(2, 1, 12);
+        y.sheet(0, 16, 8);
+        fill(y, 0, 711, 45, 999, 89, 405, 13, 27, 36);
+        Due.due("fours of unlike numbers", y.groups(0), 2);
+        int[][] due = {{7, 11, 4, 5, 999, 89}, {4, 5, 1, 3, 27, 36}};
+        for (int group = 0; group < 2; group++) {
+            for (int what = 0; what < 6; what++) {
+                Due.due("ofGroup(" + group + ", " + what + ")", y.ofGroup(group, what), due[group][what]);
+            }
+        }
         four("all least", 3, 0, 1, 1, 1);
         four("all most", 3, 700, 45, 999, 99);
         four("kt -1", 1, -1, 1, 1, 1);

@@ -60,15 +60,24 @@ public final class RidersEdgesTest {
                 roads = roads.count(4) < 16 && roads.told(1) < 90 ? roads : Edge.with(2, 1, trains);
                 int due = as ? roads.count(4) : Due.BEYOND;
                 Due.due("kt " + kt + " with " + trains + " TRAINS", roads.group(kt, 1, 1, 1), due);
+                if (as) {
+                    Due.due("KIND of kt " + kt, roads.ofGroup(due, 0), kt / 100);
+                    Due.due("TRAIN of kt " + kt, roads.ofGroup(due, 1), kt % 100);
+                }
             }
         }
         for (int ft = -20; ft < 120; ft++) {
             boolean as = ft >= 0 && ft / 10 < ft % 10 && ft % 10 <= 5;
-            Due.due("ft " + ft, withTrain().group(0, ft, 1, 1), as ? 0 : Due.BEYOND);
+            CoatsByLot x = withTrain();
+            Due.due("ft " + ft, x.group(0, ft, 1, 1), as ? 0 : Due.BEYOND);
+            Due.due("from of ft " + ft, x.ofGroup(0, 2), as ? ft / 10 : Due.BEYOND);
+            Due.due("to of ft " + ft, x.ofGroup(0, 3), as ? ft % 10 : Due.BEYOND);
         }
         for (int pq = -20; pq < 140; pq++) {
             boolean as = pq >= 0 && pq % 10 >= 1 && pq / 10 <= pq % 10;
-            Due.due("pq " + pq, withTrain().group(0, 1, 1, pq), as ? 0 : Due.BEYOND);
+            CoatsByLot x = withTrain();
+            Due.due("pq " + pq, x.group(0, 1, 1, pq), as ? 0 : Due.BEYOND);
+            Due.due("BELIEF of pq " + pq, x.ofGroup(0, 5), as ? pq : Due.BEYOND);
         }
     }
 

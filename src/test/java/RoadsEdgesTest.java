@@ -302,6 +302,13 @@ public final class RoadsEdgesTest {
         Due.due("where one starts now that goes back", x.ofTrain(1, 4), 5);
         Due.due("where one ends that goes back", x.ofTrain(1, 5), 0);
         Due.due("START stays", x.ofTrain(0, 1), 1199);
+        CoatsByLot y = withLongLines(4);
+        for (int line = 0; line < 4; line++) {
+            y.train(line, 0, 0);
+            y.train(line, 0, 1);
+            Due.due("END on LINE " + line, y.ofTrain(2 * line, 3), 121);
+            Due.due("END back on LINE " + line, y.ofTrain(2 * line + 1, 3), 121);
+        }
     }
 
     private static void promise9() {

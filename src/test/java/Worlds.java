@@ -60,6 +60,35 @@ final class Worlds {
         x.tell(9);
     }
 
+    /** All that an IMAGE keeps becomes another once more. */
+    static void changeAgain(CoatsByLot x) {
+        x.station();
+        x.walk(0, 2, 7);
+        x.walk(1, 3, -1);
+        x.extend(0, 3, 9);
+        x.line(0, 1, 9);
+        x.train(0, 1, 1);
+        x.text(0);
+        Due.text(x, 0, "f-5");
+        Due.text(x, 1, "n");
+        x.shift(64);
+        for (int shift = 0; shift < 5; shift++) {
+            x.lots(shift, 9 - shift);
+        }
+        x.group(106, 45, 3, 1);
+        x.days(30);
+        for (int group = 0; group < 10; group++) {
+            x.believe(group, 38);
+        }
+        x.price(0, 99);
+        x.price(1, 0);
+        x.seed(-7);
+        Due.feed(x, "1)");
+        x.check(0);
+        x.tell(7);
+        x.tell(8);
+    }
+
     private static void four(CoatsByLot x, int sheet, int at, int... numbers) {
         for (int i = 0; i < 4; i++) {
             x.put(sheet, at + i, numbers[i]);

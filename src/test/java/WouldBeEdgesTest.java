@@ -93,6 +93,8 @@ public final class WouldBeEdgesTest {
         Due.due("one fewer", x.turn(16 * 999 - 1), Due.NONE);
         Due.due("none", x.turn(0), Due.NONE);
         Due.due("far more", x.turn(99999), 0);
+        Due.due("BEYOND ahead of NONE: it", x.turn(-1), Due.BEYOND);
+        Due.due("BEYOND ahead of NONE, far below: it", x.turn(Edge.MIN), Due.BEYOND);
         CoatsByLot y = Edge.with(2, 1, 1);
         y.group(100, 1, 999, 1);
         Due.due("all pay", y.turn(0), 0);
