@@ -21,6 +21,7 @@ public final class DaysTest {
     }
 
     private static void promise27() {
+        Due.promise(27);
         CoatsByLot x = Due.withTrains();
         Due.due("ALL is 0", x.days(1), Due.STATE);
         Due.due("days 0", x.days(0), Due.BEYOND);
@@ -128,6 +129,7 @@ public final class DaysTest {
     }
 
     private static void promise28() {
+        Due.promise(28);
         CoatsByLot x = withOneShift();
         Due.due("no FINDS", x.find(0, 0), Due.NONE);
         x.group(0, 1, 7, 1);
@@ -165,6 +167,7 @@ public final class DaysTest {
     }
 
     private static void promise29() {
+        Due.promise(29);
         CoatsByLot x = withOneShift();
         Due.due("no FINDS", x.average(), Due.NONE);
         x.days(1);

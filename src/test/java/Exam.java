@@ -4,13 +4,17 @@ import java.util.function.Supplier;
 
 /** Asks an object for all that it can tell of itself, but what told() tells. */
 final class Exam {
+    /** Stands ahead of what is asked behind restore(). */
+    static final String RESTORED = "restored: ";
     private static final int PARTS = 11;
 
     private final CoatsByLot x;
+    private final String ahead;
     private final List<String> answers = new ArrayList<>();
 
-    private Exam(CoatsByLot x) {
+    private Exam(CoatsByLot x, String ahead) {
         this.x = x;
+        this.ahead = ahead;
     }
 
     /** An act on an object that is to be examined behind it. */
@@ -27,7 +31,7 @@ final class Exam {
         for (int part = 0; part < 2 * PARTS; part++) {
             CoatsByLot x = maker.get();
             act.on(x);
-            Exam exam = new Exam(x);
+            Exam exam = new Exam(x, part < PARTS ? "" : RESTORED);
             if (part >= PARTS) {
                 exam.note("restore()", x.restore());
             }
@@ -46,7 +50,7 @@ final class Exam {
     }
 
     private void note(String question, long answer) {
-        answers.add(question + " = " + answer);
+        answers.add(ahead + question + " = " + answer);
     }
 
     private void ask(int part) {
@@ -133,14 +137,14 @@ final class Exam {
 
     /** A TEXT as it stands, then THE TAPE as that. */
     private void texts(int use) {
-        laws(use);
+        laws("law", use);
         note("text(" + use + ")", x.text(use));
-        laws(use);
+        laws("then law", use);
     }
 
-    private void laws(int use) {
+    private void laws(String question, int use) {
         for (int i = 0; i < 20; i++) {
-            note("law(" + use + ", ..)", x.law(use, i, 3 * i % 7, i % 3, 7 * i % 5));
+            note(question + "(" + use + ", ..)", x.law(use, i, 3 * i % 7, i % 3, 7 * i % 5));
         }
     }
 

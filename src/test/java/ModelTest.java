@@ -15,6 +15,12 @@ public final class ModelTest {
         Integer.MIN_VALUE, Integer.MAX_VALUE, -1000000001, -2, -1, 0, 1, 2, 7, 8, 40, 41, 99, 100, 999, 1000, 1199, 1200
     };
 
+    /** The calls in the document's order: the first one is promise 2. */
+    private static final List<String> PROMISED = List.of(("station walk line extend ofLine train ofTrain stop group ofGroup"
+            + " as believe price feed text law walked shift lots ofShift odds unpaid coin best plan days find average"
+            + " telling turn gate wrong seen fair seed voice trace sheet put move groups image restore tell check count"
+            + " told").split(" "));
+
     private static final Map<String, Method> FACE = new HashMap<>();
     private static final Map<String, Method> MODEL = new HashMap<>();
     private static final Map<String, Integer> GOOD = new HashMap<>();
@@ -47,7 +53,8 @@ public final class ModelTest {
         for (int run = 0; run < runs; run++) {
             new ModelTest(run).go();
         }
-        for (String name : FACE.keySet()) {
+        for (String name : PROMISED) {
+            Due.promise(2 + PROMISED.indexOf(name));
             if (!name.equals("told")) {
                 Due.due(name + " was answered well", GOOD.getOrDefault(name, 0) > 0 ? 1 : 0, 1);
             }
@@ -60,19 +67,22 @@ public final class ModelTest {
 
     private void go() throws Exception {
         int building = 40 + random.nextInt(60);
-        for (int i = 0; i < CALLS; i++) {
-            String name = i < building && random.nextInt(3) > 0 ? buildName() : anyName();
+        boolean isRight = true;
+        while (isRight && log.size() < CALLS) {
+            String name = log.size() < building && random.nextInt(3) > 0 ? buildName() : anyName();
             if (name.equals("text") && random.nextInt(8) > 0) {
                 feedText();
             }
-            Object[] args = argsOf(name);
-            if (!call(name, args)) {
-                return;
-            }
+            isRight = call(name, argsOf(name));
         }
     }
 
+    /** Makes a call on both, if the class's object has still one left of those that are promised. */
     private boolean call(String name, Object... args) throws Exception {
+        if (log.size() >= CALLS) {
+            return false;
+        }
+        Due.promise(2 + PROMISED.indexOf(name));
         log.add(name + Arrays.toString(args));
         long got = ((Number) FACE.get(name).invoke(x, args)).longValue();
         long want;
@@ -114,19 +124,19 @@ public final class ModelTest {
     }
 
     private int stations() {
-        return pick(0, x.count(1) - 1);
+        return pick(0, model.count(1) - 1);
     }
 
     private int trains() {
-        return pick(0, x.count(3) - 1);
+        return pick(0, model.count(3) - 1);
     }
 
     private int groups() {
-        return pick(0, x.count(4) - 1);
+        return pick(0, model.count(4) - 1);
     }
 
     private int shifts() {
-        return pick(0, x.count(5) - 1);
+        return pick(0, model.count(5) - 1);
     }
 
     private int belief() {
@@ -144,7 +154,7 @@ public final class ModelTest {
     }
 
     private int set() {
-        int n = x.count(3);
+        int n = model.count(3);
         if (random.nextInt(30) == 0) {
             return random.nextInt();
         }
@@ -159,7 +169,7 @@ public final class ModelTest {
         return Arrays.stream(v).boxed().toArray();
     }
 
-    private Object[] argsOf(String name) {
+    private Object[] argsOf(String name) throws Exception {
         switch (name) {
             case "station": case "unpaid": case "average": case "image": case "restore":
                 return ints();
@@ -168,11 +178,11 @@ public final class ModelTest {
             case "line":
                 return ints(stations(), stations(), pick(1, 30));
             case "extend":
-                return ints(pick(0, x.count(2) - 1), stations(), pick(1, 30));
+                return ints(pick(0, model.count(2) - 1), stations(), pick(1, 30));
             case "ofLine":
-                return ints(pick(0, x.count(2) - 1), pick(-1, 6));
+                return ints(pick(0, model.count(2) - 1), pick(-1, 6));
             case "train":
-                return ints(pick(0, x.count(2) - 1), pick(0, random.nextBoolean() ? 1199 : 300), pick(0, 1));
+                return ints(pick(0, model.count(2) - 1), pick(0, random.nextBoolean() ? 1199 : 300), pick(0, 1));
             case "ofTrain":
                 return ints(trains(), pick(0, 6));
             case "stop":
@@ -192,7 +202,7 @@ public final class ModelTest {
         }
     }
 
-    private Object[] argsOfPlan(String name) {
+    private Object[] argsOfPlan(String name) throws Exception {
         switch (name) {
             case "feed":
                 return new Object[] {random.nextLong(), pick(1, 8)};
@@ -211,18 +221,18 @@ public final class ModelTest {
             case "coin": case "fair":
                 return ints(pick(0, 1));
             case "best":
-                return ints(pick(1, 5), pick(-1, x.count(5)));
+                return ints(pick(1, 5), pick(-1, model.count(5)));
             case "plan":
                 return ints(pick(1, 5));
             case "days":
                 return ints(pick(1, random.nextInt(4) == 0 ? 50 : 5));
             case "find":
-                return ints(pick(0, x.count(6)), pick(0, 2));
+                return ints(pick(0, model.count(6)), pick(0, 2));
             case "telling":
                 int l = pick(0, 600);
                 return ints(trains(), random.nextBoolean() ? l : 0, pick(l, 600), pick(0, 1));
             case "turn":
-                return ints(pick(0, random.nextInt(4) == 0 ? 99999 : x.unpaid() + 5));
+                return ints(pick(0, random.nextInt(4) == 0 ? 99999 : model.unpaid() + 5));
             default:
                 return argsOfRest(name);
         }
@@ -232,7 +242,7 @@ public final class ModelTest {
         return random.nextInt(4) == 0 ? random.nextInt() : random.nextInt(200) - 20;
     }
 
-    private Object[] argsOfRest(String name) {
+    private Object[] argsOfRest(String name) throws Exception {
         switch (name) {
             case "gate":
                 return ints(stations(), pick(0, 99999));
@@ -277,22 +287,20 @@ public final class ModelTest {
     }
 
     /** Most times tells TRAINS of the SHIFT first. */
-    private Object[] checkArgs() {
+    private Object[] checkArgs() throws Exception {
         int shift = shifts();
-        if (shift >= 0 && shift < x.count(5) && random.nextInt(4) > 0) {
-            int set = x.ofShift(shift, 0);
-            model.ofShift(shift, 0);
+        if (shift >= 0 && shift < model.count(5) && random.nextInt(4) > 0) {
+            int set = model.ofShift(shift, 0);
             List<int[]> trains = new ArrayList<>();
             for (int t = 0; t < 12; t++) {
                 if ((set & 1 << t) != 0) {
-                    trains.add(new int[] {x.ofTrain(t, 1), t});
+                    trains.add(new int[] {model.ofTrain(t, 1), t});
                 }
             }
             trains.sort(Arrays::compare);
             for (int[] train : trains) {
-                if (random.nextInt(12) > 0 && x.count(10) < 20) {
-                    x.tell(train[1]);
-                    model.tell(train[1]);
+                if (random.nextInt(12) > 0) {
+                    call("tell", train[1]);
                 }
             }
         }

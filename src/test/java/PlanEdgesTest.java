@@ -8,6 +8,7 @@ public final class PlanEdgesTest {
         promise18OfWalks();
         promise18OfRules();
         promise18OfTwelve();
+        promise18AsLinesAreNow();
         promise19();
         promise19WhenFull();
         promise19NeverLater();
@@ -20,6 +21,7 @@ public final class PlanEdgesTest {
         promise25();
         promise25OfLikeOnes();
         promise25OfManyShifts();
+        promise25OfTrainsOfTwoShifts();
         promise26();
         Due.end();
     }
@@ -122,6 +124,27 @@ public final class PlanEdgesTest {
         ruled(x, "n=12&l=13&g=1&b=0", 4095, 0);
         ruled(x, "n=11&l=11&g=0&b=0", 2047, 0);
         ruled(x, "1", 4095 - 1024, 1);
+    }
+
+    /** TRAIN 0 from 0 to 1 at 100, TRAIN 1 back at 110: what is walked follows the LINE, and WALKS, as they are now. */
+    private static void promise18AsLinesAreNow() {
+        CoatsByLot x = Due.withStations(3);
+        x.line(0, 1, 10);
+        x.train(0, 100, 0);
+        x.train(0, 110, 1);
+        Due.due("there and back", x.walked(3), 0);
+        ruled(x, "n=2&l=20&g=0&b=100", 3, 0);
+        x.extend(0, 2, 5);
+        Due.due("END is later than START now", x.walked(3), 1);
+        x.train(0, 115, 1);
+        Due.text(x, 1, "1");
+        Due.due("from where the LINE ends now", x.walked(5), 0);
+        ruled(x, "n=2&l=30&g=0&b=100", 5, 0);
+        ruled(x, "n=1&l=15", 1, 0);
+        x.train(0, 130, 0);
+        ruled(x, "g=0&l=45", 13, 0);
+        x.extend(0, 1, 1);
+        Due.due("END is later once more", x.walked(13), 1);
     }
 
     private static void promise19() {
@@ -384,6 +407,35 @@ public final class PlanEdgesTest {
         z.group(0, 1, 5, 1);
         row("one by which ODDS are 1, too", z, 3, 0, 3);
         Due.due("UNPAID of them", z.best(3, -1), 5);
+    }
+
+    /** LOTS of all SHIFTS with a TRAIN count together, for who reads them and for COIN. */
+    private static void promise25OfTrainsOfTwoShifts() {
+        CoatsByLot x = withTwelve();
+        x.shift(1);
+        x.shift(1 | 2);
+        Due.text(x, 0, "p=n");
+        x.group(300, 3, 10, 1);
+        x.group(301, 1, 20, 1);
+        row("3 LOTS of TRAIN 0, 1 of TRAIN 1", x, 3, 2, 1);
+        Due.due("3 LOTS of TRAIN 0, 1 of TRAIN 1: UNPAID", x.best(3, -1), 0);
+        row("4 LOTS, with which TRAIN 0 has 4", x, 4, 3, 1);
+        Due.due("4 LOTS, with which TRAIN 0 has 4: UNPAID", x.best(4, -1), 10);
+        CoatsByLot y = withTwelve();
+        y.shift(1 | 2);
+        y.shift(1);
+        y.shift(2);
+        Due.text(y, 0, "n=4&p>1|n=3&p>2");
+        y.group(300, 3, 10, 1);
+        y.group(301, 4, 20, 1);
+        row("of several alike, fewest of SHIFT 0", y, 5, 0, 3, 2);
+        row("TRAIN 0 by two SHIFTS", y, 4, 1, 2, 1);
+        row("both by one SHIFT", y, 3, 2, 1, 0);
+        for (int n = 3; n <= 5; n++) {
+            Due.due("UNPAID of both by " + n, y.best(n, -1), 0);
+        }
+        y.group(0, 1, 1, 1);
+        row("most COIN by TRAIN 0 of two SHIFTS", y, 5, 2, 3, 0);
     }
 
     private static void promise26() {

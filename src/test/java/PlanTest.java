@@ -19,6 +19,7 @@ public final class PlanTest {
     }
 
     private static void promise18() {
+        Due.promise(18);
         CoatsByLot x = new CoatsByLot();
         Due.due("walked without trains", x.walked(1), Due.BEYOND);
         x = Due.withTrains();
@@ -70,6 +71,7 @@ public final class PlanTest {
     }
 
     private static void promise19() {
+        Due.promise(19);
         CoatsByLot x = Due.withTrains();
         Due.due("shift 0 bits", x.shift(0), Due.BEYOND);
         Due.due("shift 32", x.shift(32), Due.BEYOND);
@@ -92,6 +94,7 @@ public final class PlanTest {
     }
 
     private static void promise20() {
+        Due.promise(20);
         CoatsByLot x = Due.withTrains();
         Due.due("lots without shifts", x.lots(0, 1), Due.BEYOND);
         x.shift(1);
@@ -105,6 +108,7 @@ public final class PlanTest {
     }
 
     private static void promise21() {
+        Due.promise(21);
         CoatsByLot x = Due.withTrains();
         x.shift(1);
         x.shift(2);
@@ -122,6 +126,7 @@ public final class PlanTest {
     }
 
     private static void promise22() {
+        Due.promise(22);
         CoatsByLot x = Due.withTrains();
         Due.due("odds without LOTS, above", x.odds(0, 0), 0);
         Due.due("odds without LOTS, below", x.odds(0, 1), 1);
@@ -144,6 +149,7 @@ public final class PlanTest {
     }
 
     private static void promise23() {
+        Due.promise(23);
         CoatsByLot x = Due.withTrains();
         Due.due("no riders", x.unpaid(), 0);
         x.group(0, 1, 999, 1);
@@ -156,6 +162,7 @@ public final class PlanTest {
     }
 
     private static void promise24() {
+        Due.promise(24);
         CoatsByLot x = Due.withTrains();
         Due.due("no riders, above", x.coin(0), 0);
         Due.due("no riders, below", x.coin(1), 1);
@@ -204,6 +211,7 @@ public final class PlanTest {
     }
 
     private static void promise25() {
+        Due.promise(25);
         CoatsByLot x = Due.withTrains();
         Due.due("no SHIFTS", x.best(1, -1), Due.NONE);
         Due.due("BEYOND ahead of NONE: n", x.best(6, 0), Due.BEYOND);
@@ -264,6 +272,7 @@ public final class PlanTest {
     }
 
     private static void promise26() {
+        Due.promise(26);
         CoatsByLot x = Due.withTrains();
         Due.due("no SHIFTS", x.plan(1), Due.NONE);
         Due.due("n 0", x.plan(0), Due.BEYOND);

@@ -20,6 +20,7 @@ public final class RestTest {
     }
 
     private static void promise36() {
+        Due.promise(36);
         CoatsByLot x = new CoatsByLot();
         Due.due("z at first", x.seed(Integer.MIN_VALUE), 1);
         Due.due("z", x.seed(Due.BEYOND), Integer.MIN_VALUE);
@@ -37,17 +38,14 @@ public final class RestTest {
     }
 
     private static void promise37() {
+        Due.promise(37);
         CoatsByLot x = withKinds();
         // number n and MANY 100 + n of each KIND n
         for (int kind = 0; kind < 8; kind++) {
-            int m = 100 + kind;
             for (int at : new int[] {0, 5, -77, Integer.MAX_VALUE, Integer.MIN_VALUE}) {
-                Due.due(kind + " goes " + at, x.voice(kind, 0, at), goes(kind, m, at));
-                Due.due(kind + " weighs " + at, x.voice(kind, 1, at), weighs(kind, m, at));
-                Due.due(kind + " tells " + at, x.voice(kind, 2, at), tells(kind, m, at));
-                int pays = weighs(kind, m, at) ^ tells(kind, m, at);
-                int paying = kind == 1 || kind == 6 ? pays + 1 : pays;
-                Due.due(kind + " pays " + at, x.voice(kind, 3, at), kind == 6 ? goes(6, m, 2) - paying : paying);
+                for (int act = 0; act < 4; act++) {
+                    Due.due(kind + ", act " + act + " of " + at, x.voice(kind, act, at), voice(kind, 100 + kind, act, at));
+                }
             }
         }
         Due.due("no group", x.voice(8, 0, 0), Due.BEYOND);
@@ -56,6 +54,22 @@ public final class RestTest {
         Due.due("act -1", x.voice(0, -1, 0), Due.BEYOND);
         Due.due("any number", x.voice(0, 0, Due.NONE), Due.NONE);
         Due.due("which is no ERROR", x.told(2), 0);
+    }
+
+    /** What a GROUP says whose number is that of its KIND. */
+    static int voice(int n, int m, int act, int x) {
+        switch (act) {
+            case 0:
+                return goes(n, m, x);
+            case 1:
+                return weighs(n, m, x);
+            case 2:
+                return tells(n, m, x);
+            default:
+                int pays = weighs(n, m, x) ^ tells(n, m, x);
+                int paying = n == 1 || n == 6 ? pays + 1 : pays;
+                return n == 6 ? goes(6, m, 2) - paying : paying;
+        }
     }
 
     private static int goes(int n, int m, int x) {
@@ -98,6 +112,7 @@ public final class RestTest {
     }
 
     private static void promise38() {
+        Due.promise(38);
         CoatsByLot x = withKinds();
         Due.due("no TRACE yet", x.trace(0), Due.NONE);
         Due.due("trace -1", x.trace(-1), Due.NONE);
@@ -122,6 +137,7 @@ public final class RestTest {
     }
 
     private static void promise39() {
+        Due.promise(39);
         CoatsByLot x = new CoatsByLot();
         Due.due("sheet 4", x.sheet(4, 8, 1), Due.BEYOND);
         Due.due("sheet -1", x.sheet(-1, 8, 1), Due.BEYOND);
@@ -169,6 +185,7 @@ public final class RestTest {
     }
 
     private static void promise40() {
+        Due.promise(40);
         CoatsByLot x = Due.withTrains();
         x.sheet(0, 8, 2);
         x.sheet(1, 16, 2);
@@ -201,6 +218,7 @@ public final class RestTest {
     }
 
     private static void promise41() {
+        Due.promise(41);
         CoatsByLot x = Due.withTrains();
         x.sheet(2, 32, 6);
         for (int i = 0; i < 6; i++) {
@@ -257,6 +275,7 @@ public final class RestTest {
     }
 
     private static void promise42() {
+        Due.promise(42);
         CoatsByLot x = Due.withTrains();
         x.sheet(0, 16, 11);
         fill(x, 0, 704, 15, 999, 29, 100, 1, 5, 12, 0, 1, 7);
@@ -290,6 +309,7 @@ public final class RestTest {
     }
 
     private static void promise43and44() {
+        Due.promise(44);
         CoatsByLot x = Due.withTrains();
         Due.due("no IMAGE", x.restore(), Due.NONE);
         x.shift(1);
@@ -376,6 +396,7 @@ public final class RestTest {
     }
 
     private static void promise45() {
+        Due.promise(45);
         CoatsByLot x = new CoatsByLot();
         for (int i = 1; i <= 20; i++) {
             Due.due("tell " + i, x.tell(-i), i);
@@ -392,6 +413,7 @@ public final class RestTest {
     }
 
     private static void promise46() {
+        Due.promise(46);
         CoatsByLot x = Due.withStations(2);
         x.line(0, 1, 5);
         x.train(0, 40, 0);
@@ -414,6 +436,7 @@ public final class RestTest {
     }
 
     private static void promise47() {
+        Due.promise(47);
         CoatsByLot x = Due.withTrains();
         x.shift(1);
         x.shift(2);
@@ -439,6 +462,7 @@ public final class RestTest {
     }
 
     private static void promise48() {
+        Due.promise(48);
         CoatsByLot x = Due.withTrains();
         Due.due("k 0", x.told(0), Due.BEYOND);
         Due.due("k 6", x.told(6), Due.BEYOND);

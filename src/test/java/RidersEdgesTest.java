@@ -235,6 +235,13 @@ public final class RidersEdgesTest {
         Due.due("UNTIL of SPARED, not FOUND on DAY 20", x.ofGroup(0, 6), 31);
         x.days(1);
         Due.due("UNTIL of SPARED, FOUND on DAY 21", x.ofGroup(0, 6), 51);
+        Edge.pass(x, 397 - 22);
+        x.group(700, 1, 1, 1);
+        x.days(1);
+        Due.due("UNTIL of SPARED, FOUND on DAY 397", x.ofGroup(1, 6), 398);
+        x.days(1);
+        Due.due("UNTIL of SPARED, FOUND on DAY 398, 30 DAYS behind it", x.ofGroup(1, 6), 428);
+        Due.due("PAYS of SPARED, on DAY 399", x.ofGroup(1, 7), 1);
     }
 
     private static void promise12() {
@@ -274,6 +281,11 @@ public final class RidersEdgesTest {
             Due.due("BELIEF behind pq " + pq, x.ofGroup(0, 5), was);
         }
         Due.due("BELIEF of another one", x.ofGroup(1, 5), 1);
+        CoatsByLot caught = Edge.withLots(1, 1);
+        caught.group(500, 1, 1, 1);
+        caught.days(1);
+        Due.due("BELIEF of CAUGHT who were FOUND", caught.believe(0, 99), 1);
+        Due.due("UNTIL, which stays", caught.ofGroup(0, 6), 30);
         Due.due("BEYOND of no GROUP leaves it: it", x.believe(2, 11) == Due.BEYOND ? x.ofGroup(0, 5) : -1, 99);
     }
 

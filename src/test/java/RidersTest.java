@@ -14,6 +14,7 @@ public final class RidersTest {
     }
 
     private static void promise10() {
+        Due.promise(10);
         CoatsByLot x = new CoatsByLot();
         Due.due("group without trains", x.group(0, 1, 1, 1), Due.BEYOND);
         x = Due.withTrains();
@@ -38,6 +39,7 @@ public final class RidersTest {
     }
 
     private static void promise11() {
+        Due.promise(11);
         CoatsByLot x = Due.withTrains();
         x.group(0, 1, 1, 1);
         x.group(402, 15, 123, 27);
@@ -103,6 +105,7 @@ public final class RidersTest {
     }
 
     private static void promise12() {
+        Due.promise(12);
         CoatsByLot x = Due.withTrains();
         int[][] under = {
             {0}, {0, 1}, {0, 2}, {0, 2, 3}, {0, 2, 4}, {0, 5}, {0, 1, 6}, {0, 5, 7}
@@ -125,6 +128,7 @@ public final class RidersTest {
     }
 
     private static void promise13() {
+        Due.promise(13);
         CoatsByLot x = Due.withTrains();
         x.group(200, 1, 5, 12);
         Due.due("believe 99", x.believe(0, 99), 12);
@@ -139,6 +143,7 @@ public final class RidersTest {
     }
 
     private static void promise14() {
+        Due.promise(14);
         CoatsByLot x = new CoatsByLot();
         Due.due("FARE", x.price(0, 99), 3);
         Due.due("FARE 1", x.price(0, 1), 99);

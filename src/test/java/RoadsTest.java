@@ -17,6 +17,7 @@ public final class RoadsTest {
     }
 
     private static void promise1() {
+        Due.promise(1);
         CoatsByLot x = new CoatsByLot();
         for (int what = 0; what <= 11; what++) {
             Due.due("new: count(" + what + ")", x.count(what), 0);
@@ -38,6 +39,7 @@ public final class RoadsTest {
     }
 
     private static void promise2() {
+        Due.promise(2);
         CoatsByLot x = new CoatsByLot();
         for (int i = 0; i < 8; i++) {
             Due.due("station " + i, x.station(), i);
@@ -48,6 +50,7 @@ public final class RoadsTest {
     }
 
     private static void promise3() {
+        Due.promise(3);
         CoatsByLot x = Due.withStations(3);
         Due.due("walk at first", x.walk(0, 1, 60), -1);
         Due.due("walk back is the same", x.walk(1, 0, 0), 60);
@@ -63,6 +66,7 @@ public final class RoadsTest {
     }
 
     private static void promise4() {
+        Due.promise(4);
         CoatsByLot x = Due.withStations(3);
         Due.due("line leg 0", x.line(0, 1, 0), Due.BEYOND);
         Due.due("line leg 31", x.line(0, 1, 31), Due.BEYOND);
@@ -79,6 +83,7 @@ public final class RoadsTest {
     }
 
     private static void promise5() {
+        Due.promise(5);
         CoatsByLot x = Due.withStations(3);
         x.line(0, 1, 5);
         Due.due("extend by the last", x.extend(0, 1, 5), Due.BEYOND);
@@ -99,6 +104,7 @@ public final class RoadsTest {
     }
 
     private static void promise6() {
+        Due.promise(6);
         CoatsByLot x = Due.withTrains();
         Due.due("ofLine -1", x.ofLine(0, -1), 3);
         Due.due("ofLine 0", x.ofLine(0, 0), 0);
@@ -111,6 +117,7 @@ public final class RoadsTest {
     }
 
     private static void promise7() {
+        Due.promise(7);
         CoatsByLot x = Due.withStations(2);
         Due.due("train of no line", x.train(0, 0, 0), Due.BEYOND);
         x.line(0, 1, 1);
@@ -129,6 +136,7 @@ public final class RoadsTest {
     }
 
     private static void promise8() {
+        Due.promise(8);
         CoatsByLot x = Due.withTrains();
         int[] due = {0, 120, 1, 137, 2, 0, 0};
         for (int what = 0; what < due.length; what++) {
@@ -176,6 +184,7 @@ public final class RoadsTest {
     }
 
     private static void promise9() {
+        Due.promise(9);
         CoatsByLot x = Due.withTrains();
         int[] stations = {0, 1, 2};
         int[] there = {100, 110, 117};

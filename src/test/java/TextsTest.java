@@ -12,6 +12,7 @@ public final class TextsTest {
     }
 
     private static void promise15() {
+        Due.promise(15);
         CoatsByLot x = new CoatsByLot();
         Due.due("feed 0", x.feed(1, 0), Due.BEYOND);
         Due.due("feed 9", x.feed(1, 9), Due.BEYOND);
@@ -35,6 +36,7 @@ public final class TextsTest {
     }
 
     private static void promise16() {
+        Due.promise(16);
         CoatsByLot x = new CoatsByLot();
         Due.feed(x, "f+g");
         Due.due("use 2", x.text(2), Due.BEYOND);
@@ -112,6 +114,7 @@ public final class TextsTest {
     }
 
     private static void promise17() {
+        Due.promise(17);
         gives("f", 7);
         gives("g", -3);
         gives("p", 2);

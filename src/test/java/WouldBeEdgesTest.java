@@ -158,6 +158,10 @@ public final class WouldBeEdgesTest {
         y.price(0, 1);
         y.group(0, 1, 1, 1);
         Due.due("one by FARE 1, less cost 2", y.gate(0, 2), -1);
+        CoatsByLot z = three.make();
+        z.price(0, 50);
+        z.group(400, 1, 2, 9);
+        Due.due("FARE of SHORT ones, too, isn't by 2", z.gate(0, 0), 100);
     }
 
     private static void promise32OfStops() {

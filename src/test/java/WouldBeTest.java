@@ -14,6 +14,7 @@ public final class WouldBeTest {
     }
 
     private static void promise30() {
+        Due.promise(30);
         CoatsByLot x = Due.withTrains();
         x.train(0, 100, 1);
         x.group(300, 1, 1, 1);
@@ -45,6 +46,7 @@ public final class WouldBeTest {
     }
 
     private static void promise31() {
+        Due.promise(31);
         CoatsByLot x = Due.withTrains();
         Due.due("nobody", x.turn(0), 0);
         Due.due("x -1", x.turn(-1), Due.BEYOND);
@@ -86,6 +88,7 @@ public final class WouldBeTest {
     }
 
     private static void promise32() {
+        Due.promise(32);
         CoatsByLot x = Due.withTrains();
         Due.due("nobody", x.gate(0, 99999), -99999);
         x.price(0, 4);
@@ -110,6 +113,7 @@ public final class WouldBeTest {
     }
 
     private static void promise33() {
+        Due.promise(33);
         CoatsByLot x = Due.withTrains();
         Due.due("nobody, above", x.wrong(1000, 0), 0);
         Due.due("nobody, below", x.wrong(1000, 1), 1);
@@ -135,6 +139,7 @@ public final class WouldBeTest {
     }
 
     private static void promise34() {
+        Due.promise(34);
         CoatsByLot x = Due.withTrains();
         Due.due("x 0", x.seen(0, 0), 1);
         Due.due("never", x.seen(0, 1), Due.NONE);
@@ -169,6 +174,7 @@ public final class WouldBeTest {
     }
 
     private static void promise35() {
+        Due.promise(35);
         CoatsByLot x = Due.withTrains();
         Due.due("nobody", x.fair(0), Due.NONE);
         Due.due("what 2", x.fair(2), Due.BEYOND);
