@@ -15,7 +15,8 @@ public final class ChangesTest {
     private static final String PAYS = "|ofGroup\\(\\d+, 7\\)|unpaid\\(\\)|fair\\(0\\)|turn\\(500\\)|coin\\(.\\)"
             + "|wrong\\(7, .\\)|gate\\(.\\)|best\\(2, -?.\\)|days\\(1\\)|PURSE";
     /** What follows from LOTS. */
-    private static final String LOTS = "|count\\(8\\)|ofShift\\(\\d, 1\\)|ofTrain\\(\\d+, 6\\)|odds\\(0, .\\)|seen\\(\\d+\\)" + PAYS;
+    private static final String LOTS = "|count\\(8\\)|ofShift\\(\\d, 1\\)|ofTrain\\(\\d+, 6\\)|odds\\(0, .\\)"
+            + "|seen\\(\\d+\\)" + PAYS;
     /** What a GROUP that comes is asked for, and what it pays. */
     private static final String COMES = "|count\\(4\\)" + PAYS;
     private static final String SHEETS = "(" + Exam.RESTORED + ")?(groups\\(.\\)|ofGroup\\(\\) of those";
@@ -72,8 +73,8 @@ public final class ChangesTest {
         // TRAIN 2 alone is of LINE 1
         changes(5, "extend()", 4, "ofLine\\(1, -?\\d\\)|ofTrain\\(2, [35]\\)|stop\\(2, \\d\\)|walked\\(\\d+\\)",
                 x -> x.extend(1, 0, 5));
-        changes(7, "train()", 6, "count\\(3\\)|ofTrain\\(6, \\d\\)|stop\\(6, \\d\\)|walked\\(65\\)|telling\\(6\\)|seen\\(6\\)",
-                x -> x.train(0, 5, 0));
+        changes(7, "train()", 6, "count\\(3\\)|ofTrain\\(6, \\d\\)|stop\\(6, \\d\\)|walked\\(65\\)|telling\\(6\\)"
+                + "|seen\\(6\\)", x -> x.train(0, 5, 0));
     }
 
     private void riders() {
@@ -94,7 +95,8 @@ public final class ChangesTest {
             x.feed(0x31L, 1);
             return x.text(0);
         });
-        changes(16, "text() of the SHIFT RULE", 1, "count\\(9\\)|text\\(.\\)|(then )?law\\(1, ..\\)|walked\\(\\d+\\)", x -> {
+        String ruled = "count\\(9\\)|text\\(.\\)|(then )?law\\(1, ..\\)|walked\\(\\d+\\)";
+        changes(16, "text() of the SHIFT RULE", 1, ruled, x -> {
             x.feed(0x30L, 1);
             return x.text(1);
         });
@@ -105,8 +107,8 @@ public final class ChangesTest {
         changes(20, "lots()", 4, "ofShift\\(3, 1\\)" + LOTS, x -> x.lots(3, 5));
         changes(26, "plan()", maker.get().best(1, -1), "ofShift\\(., 1\\)" + LOTS, x -> x.plan(1));
         long found = maker.get().days(1);
-        changes(27, "days()", found, "count\\([067]\\)|count\\(12\\)|TODAY|z|ofGroup\\(\\d+, [56]\\)|ofShift\\(\\d, 2\\)"
-                + "|find\\(11, \\d\\)|average\\(\\)" + PAYS, x -> x.days(1));
+        changes(27, "days()", found, "count\\([067]\\)|count\\(12\\)|TODAY|z|ofGroup\\(\\d+, [56]\\)"
+                + "|ofShift\\(\\d, 2\\)|find\\(11, \\d\\)|average\\(\\)" + PAYS, x -> x.days(1));
     }
 
     private void rest() {
@@ -114,7 +116,8 @@ public final class ChangesTest {
         changes(37, "voice()", 5, "(" + Exam.RESTORED + ")?(count\\(11\\)|trace\\(\\d+\\))", x -> x.voice(0, 0, 5));
         changes(39, "sheet()", 1, SHEETS + "|move\\(1, ., \\d+\\)|move\\(1, \\.\\., \\d+\\)|move\\(., 1\\))",
                 x -> x.sheet(1, 8, 3));
-        changes(39, "sheet() that is missing then", 1, SHEETS + "|move\\(2, .*\\)|move\\(., 2\\))", x -> x.sheet(2, 0, 3));
+        changes(39, "sheet() that is missing then", 1, SHEETS + "|move\\(2, .*\\)|move\\(., 2\\))",
+                x -> x.sheet(2, 0, 3));
         changes(40, "put()", 1, SHEETS + ")", x -> x.put(2, 2, 322));
         changes(41, "move()", 4, SHEETS + ")", x -> x.move(0, 0, 0, 4, 4));
         changes(45, "tell()", 4, "count\\(10\\)|tell\\(\\)|check\\(0\\)", x -> x.tell(0));

@@ -95,15 +95,9 @@ public final class KindsTest {
     }
 
     private static void fraction(String what, long gotAbove, long gotBelow, long above, long below) {
-        long a = above;
-        long b = below;
-        while (b != 0) {
-            long rest = a % b;
-            a = b;
-            b = rest;
-        }
-        Due.due(what + ", above", gotAbove, above / a);
-        Due.due(what + ", below", gotBelow, below / a);
+        long gcd = Model.gcd(above, below);
+        Due.due(what + ", above", gotAbove, above / gcd);
+        Due.due(what + ", below", gotBelow, below / gcd);
     }
 
     private static void promise11() {

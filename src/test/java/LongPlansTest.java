@@ -160,12 +160,8 @@ public final class LongPlansTest {
         run.end();
     }
 
-    private static long gcd(long a, long b) {
-        return b == 0 ? a : gcd(b, a % b);
-    }
-
     private static long part(long above, long below, int part) {
-        return (part == 0 ? above : below) / gcd(above, below);
+        return (part == 0 ? above : below) / Model.gcd(above, below);
     }
 
     private static void promise22() {

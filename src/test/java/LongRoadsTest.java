@@ -1,4 +1,4 @@
-/** Promises 1 to 14 in runs of 512 calls on one object: what a promise says holds for the last call as for the first. */
+/** Promises 1 to 14 in runs of 512 calls on one object: what holds for the first call holds for the last one. */
 public final class LongRoadsTest {
     private LongRoadsTest() {
     }

@@ -36,8 +36,9 @@ public final class ReadmeTest {
         for (String line : readme.split("\n")) {
             Matcher m = CALL.matcher(line);
             if (m.matches()) {
-                long answer = ((Number) face.get(m.group(1)).invoke(x, numbers(face.get(m.group(1)), m.group(2)))).longValue();
-                Due.due("README's " + line, answer, Long.parseLong(m.group(3)));
+                Method told = face.get(m.group(1));
+                Number answer = (Number) told.invoke(x, numbers(told, m.group(2)));
+                Due.due("README's " + line, answer.longValue(), Long.parseLong(m.group(3)));
                 calls++;
             } else {
                 Due.due("a call without an answer: " + line, line.startsWith("x.") ? 1 : 0, 0);

@@ -44,7 +44,8 @@ public final class RestTest {
         for (int kind = 0; kind < 8; kind++) {
             for (int at : new int[] {0, 5, -77, Integer.MAX_VALUE, Integer.MIN_VALUE}) {
                 for (int act = 0; act < 4; act++) {
-                    Due.due(kind + ", act " + act + " of " + at, x.voice(kind, act, at), voice(kind, 100 + kind, act, at));
+                    int due = voice(kind, 100 + kind, act, at);
+                    Due.due(kind + ", act " + act + " of " + at, x.voice(kind, act, at), due);
                 }
             }
         }

@@ -29,7 +29,7 @@ final class Run {
         return MOST - calls;
     }
 
-    /** So many STATIONS, and a LINE of the first two, in one MINUTE, with TRAINS there and back by turns, a MINUTE apart. */
+    /** So many STATIONS, a LINE of the first two, of one MINUTE, and TRAINS there and back by turns, a MINUTE apart. */
     void build(int stations, int trains) {
         for (int i = 0; i < stations; i++) {
             due(i, x -> x.station());
