@@ -155,6 +155,15 @@ public final class DaysEdgesTest {
             Due.due("BELIEF 9 of 9 of " + kind + " who are FOUND", x.ofGroup(2, 5), 99);
             x.days(50);
             Due.due("BELIEF 1 of 1 of " + kind + " who are FOUND", x.ofGroup(0, 5), 11);
+            for (int group = 0; group < 4; group++) {
+                Due.due("UNTIL of " + kind + " who are FOUND, which stays", x.ofGroup(group, 6), 0);
+            }
+        }
+        for (int kind : new int[] {5, 7}) {
+            CoatsByLot x = Edge.withLots(1, 1);
+            x.group(100 * kind, 1, 1, 19);
+            x.days(50);
+            Due.due("BELIEF of " + kind + " who are FOUND, which stays", x.ofGroup(0, 5), 19);
         }
         CoatsByLot x = Edge.withLots(1, 1);
         x.train(0, 1100, 0);

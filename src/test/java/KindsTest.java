@@ -157,8 +157,13 @@ public final class KindsTest {
             Due.due("p of WEIGHING, on TRAIN 0", x.ofGroup(7, 5), shift == 0 ? 19 : 9);
             Due.due("p of SHORT, on TRAIN 0", x.ofGroup(11, 5), shift == 0 ? 29 : 19);
             Due.due("UNTIL of CAUGHT, on TRAIN 2", x.ofGroup(2, 6), shift == 1 ? 32 : 0);
-            for (int group : new int[] {4, 5, 6, 8, 9, 10, 12, 13, 14, 15}) {
+            for (int group : new int[] {0, 1, 2, 3, 4, 5, 6, 8, 9, 10, 12, 13, 14, 15}) {
                 Due.due("BELIEF of GROUP " + group, x.ofGroup(group, 5), GROUPS[group][3]);
+            }
+            Due.due("UNTIL of CAUGHT who pays", x.ofGroup(0, 6), 30);
+            Due.due("UNTIL of SPARED who pays", x.ofGroup(1, 6), 31);
+            for (int group = 3; group < GROUPS.length; group++) {
+                Due.due("UNTIL of GROUP " + group, x.ofGroup(group, 6), 0);
             }
             Due.promise(28);
             Due.due("find() of all KINDS", x.find(2, 1), found);

@@ -24,7 +24,7 @@ public final class RoomTest {
         long made = bytes() - ahead;
         Due.due("an object of " + made + " bytes is below 20000", made < 20000 ? 1 : 0, 1);
         ahead = bytes();
-        dearCalls(x, 40);
+        dearCalls(x, 20);
         long used = bytes() - ahead;
         Due.due("calls that made " + used + " bytes make none", used < 1000 ? 1 : 0, 1);
         Due.end();
